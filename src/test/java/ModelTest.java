@@ -28,9 +28,6 @@ public final class ModelTest {
                 unseen.add(kind);
             }
         }
-        if (args.length > 0) {
-            System.out.println(seen);
-        }
         if (!unseen.isEmpty()) {
             System.out.println("the runs are too tame, seldom or never seen: " + unseen);
             System.exit(1);
