@@ -221,7 +221,11 @@ public final class ShootingDays {
     }
 
     public int better() {
-        return planner.improve();
+        int times = 0;
+        while (times < BETTERINGS && (planner.makeFirstGoodMove() || planner.makeFirstGoodTrade())) {
+            times++;
+        }
+        return times;
     }
 
     public int order() {
@@ -326,7 +330,8 @@ public final class ShootingDays {
         }
 
         int way(int from, int to) {
-            return Math.abs(spot[place[from]] - spot[place[to]]);
+            int difference = spot[place[to]] - spot[place[from]];
+            return difference < 0 ? -difference : difference;
         }
 
         int needsByOthersToo(int scene) {
@@ -815,15 +820,7 @@ public final class ShootingDays {
             plan.exchange(day, Plan.SPARE);
         }
 
-        int improve() {
-            int times = 0;
-            while (times < BETTERINGS && (makeFirstGoodMove() || makeFirstGoodTrade())) {
-                times++;
-            }
-            return times;
-        }
-
-        private boolean makeFirstGoodMove() {
+        boolean makeFirstGoodMove() {
             int total = bill.total();
             for (int scene = 0; scene < film.scenes; scene++) {
                 int from = plan.dayWith(scene);
@@ -848,7 +845,7 @@ public final class ShootingDays {
             return false;
         }
 
-        private boolean makeFirstGoodTrade() {
+        boolean makeFirstGoodTrade() {
             int total = bill.total();
             for (int a = 0; a < plan.days; a++) {
                 for (int b = a + 1; b < plan.days; b++) {
@@ -901,8 +898,10 @@ public final class ShootingDays {
                 greater--;
             }
             swapTurns(rise, greater);
-            for (int low = rise + 1, high = length - 1; low < high; low++, high--) {
-                swapTurns(low, high);
+            // Behind the rise the numbers fall; turned about they are in their least order.
+            int behind = length - 1 - rise;
+            for (int i = 0; i < behind / 2; i++) {
+                swapTurns(rise + 1 + i, length - 1 - i);
             }
             return true;
         }
