@@ -164,7 +164,8 @@ public final class EdgesTest {
 
     /** Calls that show all there is of an object; in several parts, as one object has calls for one of them. */
     private static final class Looks {
-        private static final List<List<Step>> PARTS = List.of(scenes(), plan(), room(), places(), players());
+        private static final List<List<Step>> PARTS =
+            List.of(scenes(), plan(), room(), places(), players(), planning());
 
         /** What a call behind these changes shows otherwise than without it; null: nothing. */
         static String difference(List<Step> changes, Step call) {
@@ -245,6 +246,19 @@ public final class EdgesTest {
             }
             return steps;
         }
+
+        /** Whatever is measured and kept inside of the object, the plan goes on as if nothing had been. */
+        private static List<Step> planning() {
+            List<Step> steps = new ArrayList<>();
+            for (int day = 0; day < 7; day++) {
+                steps.add(Step.of("trade", 0, day, day + 1));
+            }
+            each(steps, "tidy", 8);
+            steps.add(Step.of("better", 0));
+            steps.add(Step.of("order", 0));
+            each(steps, "rain", 8);
+            return steps;
+        }
     }
 
     /** Reads the files. */
@@ -252,9 +266,9 @@ public final class EdgesTest {
         private static final Pattern CALL = Pattern.compile("(\\w+)\\((.*)\\) = (.+)");
         private static final Pattern ROW = Pattern.compile("row (\\d) is (.+)");
         private static final Pattern ARGUMENT = Pattern.compile("\\{[^}]*\\}|[^,\\s]+");
-        private static final Map<String, Integer> NAMES = Map.of("NONE", ShootingDays.NONE, "BAD", ShootingDays.BAD,
-            "STATE", ShootingDays.STATE, "FULL", ShootingDays.FULL, "MIN", Integer.MIN_VALUE,
-            "MAX", Integer.MAX_VALUE);
+        /** The document's own numbers, whatever the class has. */
+        private static final Map<String, Integer> NAMES = Map.of("NONE", -1, "BAD", -2, "STATE", -3, "FULL", -4,
+            "MIN", Integer.MIN_VALUE, "MAX", Integer.MAX_VALUE);
 
         private final Map<String, List<Step>> givens = new HashMap<>();
 
@@ -297,7 +311,7 @@ public final class EdgesTest {
             for (int i = 0; i < scenes.size(); i++) {
                 steps.add(Step.of("row", scenes.get(i), day, i));
             }
-            steps.add(Step.of("row", ShootingDays.NONE, day, scenes.size()));
+            steps.add(Step.of("row", NAMES.get("NONE"), day, scenes.size()));
             return steps;
         }
 

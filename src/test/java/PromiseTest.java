@@ -12,6 +12,7 @@ public final class PromiseTest {
 
     public static void main(String[] args) {
         newObject();
+        lastPromisedCall();
         scene();
         player();
         rent();
@@ -86,6 +87,22 @@ public final class PromiseTest {
         due("held(0, 3)", x.held(0, 3), 0);
         x.scene(10, 0, 0, 0, 0);
         due("a second object's count(0)", new ShootingDays().count(0), 0);
+    }
+
+    private static void lastPromisedCall() {
+        promise = "1 a new object, used for at most 512 calls";
+        ShootingDays x = withDays(8);
+        int calls = 8;
+        for (int s = 0; s < 20; s++) {
+            due("scene " + s, x.scene(5, 0, 0, 0, 0), s);
+            calls++;
+        }
+        while (calls < 510) {
+            due("a refused call", x.scene(5, 0, 0, 0, 0), FULL);
+            calls++;
+        }
+        due("the 511th call", x.put(19, 7), 0);
+        due("the 512th call", x.about(19, 5), 7);
     }
 
     private static void scene() {
