@@ -1,16 +1,22 @@
+import java.lang.reflect.Method;
 import java.util.ArrayList;
 import java.util.Arrays;
+import java.util.HashMap;
 import java.util.List;
+import java.util.Map;
 import java.util.Random;
 import java.util.TreeMap;
 
 /**
  * Random runs of calls, each answered by ShootingDays and by a second program that follows the document's
- * words one by one, without regard to speed. After each call everything that can be looked at is compared.
+ * words one by one, without regard to speed. Behind each call a few things that can be looked at are compared, and
+ * from time to time all of them.
  */
 public final class ModelTest {
     private static final int RUNS = 2500;
     private static final int CALLS = 90;
+    private static final int LOOKS_BEHIND_A_CALL = 4;
+    private static final int CALLS_BETWEEN_FULL_LOOKS = 6;
 
     private static final TreeMap<String, Integer> seen = new TreeMap<>();
 
@@ -41,16 +47,17 @@ public final class ModelTest {
         "spot -1", "spot -2", "spot -3", "ahead -1", "ahead -2", "ahead -3", "ahead 0", "ahead 1",
         "day -2", "day -4", "day 7", "may -1", "may -3", "may 0", "may 1", "may 2",
         "put -1", "put -3", "put 0", "put 1", "put 2", "take -1", "take -3", "take 7", "tidy -1", "tidy changed",
-        "trade -1", "trade -2", "trade -3", "trade done", "better 0", "better 1", "better 2", "better 5",
+        "trade -1", "trade -2", "trade -3", "trade changed", "better 0", "better 1", "better 2", "better 5",
         "order -3", "order changed", "rain -1", "rain both", "rain 1", "rain 16", "change -1", "change -2",
         "change -3", "change 0",
     };
 
     private static final class Run {
         final Random random;
-        final ShootingDays real = new ShootingDays();
+        final Random lookRandom;
+        final Used used = new Used();
         final Model model = new Model();
-        final List<String> calls = new ArrayList<>();
+        final List<Answer> done = new ArrayList<>();
         /** Runs differ in how wide their numbers are, so that both free and tight plans come up. */
         final int longest;
         final int widest;
@@ -59,6 +66,7 @@ public final class ModelTest {
 
         Run(int number) {
             random = new Random(number);
+            lookRandom = new Random(number);
             longest = new int[] {40, 120, 200, 300}[random.nextInt(4)];
             widest = new int[] {0, 10, 60, 120}[random.nextInt(4)];
             lightOdds = random.nextInt(4);
@@ -131,45 +139,38 @@ public final class ModelTest {
             int light = random.nextInt(4) < lightOdds ? number(1, 2) : number(0, 2);
             int out = number(0, 1);
             int players = random.nextInt(3) == 0 ? number(0, 255) : 1 << pick(0, 7) | 1 << pick(0, 7);
-            return check("scene", real.scene(minutes, place, light, out, players),
-                model.scene(minutes, place, light, out, players), minutes, place, light, out, players);
+            return check("scene", minutes, place, light, out, players);
         }
 
         String addDay() {
             int most = random.nextInt(3) == 0 ? number(60, 900) : number(400, 900);
             int sun = random.nextInt(3) == 0 ? number(0, 900) : number(300, 900);
-            return check("day", real.day(most, sun), model.day(most, sun), most, sun);
+            return check("day", most, sun);
         }
 
         String player() {
             int p = number(0, 7);
             int pay = number(0, 1000);
             int gap = random.nextBoolean() ? number(0, 3) : number(0, 10);
-            return check("player", real.player(p, pay, gap), model.player(p, pay, gap), p, pay, gap);
+            return check("player", p, pay, gap);
         }
 
         String rent() {
-            int place = number(0, 7);
-            int r = number(0, 1000);
-            return check("rent", real.rent(place, r), model.rent(place, r), place, r);
+            return check("rent", number(0, 7), number(0, 1000));
         }
 
         String spot() {
             int place = number(0, 7);
             int m = random.nextInt(6) == 0 ? number(0, 120) : number(0, widest);
-            return check("spot", real.spot(place, m), model.spot(place, m), place, m);
+            return check("spot", place, m);
         }
 
         String ahead() {
-            int a = aScene();
-            int b = aScene();
-            return check("ahead", real.ahead(a, b), model.ahead(a, b), a, b);
+            return check("ahead", aScene(), aScene());
         }
 
         String putOne() {
-            int scene = aScene();
-            int day = aDay();
-            return check("put", real.put(scene, day), model.put(scene, day), scene, day);
+            return check("put", aScene(), aDay());
         }
 
         String call() {
@@ -181,8 +182,7 @@ public final class ModelTest {
                 return planning(kind - 35);
             }
             if (kind < 70) {
-                int scene = aScene();
-                return kind < 64 ? check("take", real.take(scene), model.take(scene), scene) : mayOne(scene);
+                return kind < 64 ? check("take", aScene()) : check("may", aScene(), aDay());
             }
             switch (kind / 3) {
                 case 23: return addScene();
@@ -199,110 +199,156 @@ public final class ModelTest {
             }
         }
 
-        String mayOne(int scene) {
-            int day = aDay();
-            return check("may", real.may(scene, day), model.may(scene, day), scene, day);
-        }
-
         String change() {
             int day = aDay();
             int most = random.nextInt(3) == 0 ? number(60, 900) : number(300, 900);
             int sun = random.nextInt(3) == 0 ? number(0, 900) : number(200, 900);
-            return check("change", real.change(day, most, sun), model.change(day, most, sun), day, most, sun);
+            return check("change", day, most, sun);
         }
 
         String planning(int kind) {
-            String before = model.rows.toString();
             int a = aDay();
             int b = aDay();
-            String fault;
             if (kind < 4) {
-                fault = check("tidy", real.tidy(a), model.tidy(a), a);
-            } else if (kind < 9) {
-                fault = check("trade", real.trade(a, b), model.trade(a, b), a, b);
-            } else if (kind < 12) {
-                fault = check("better", real.better(), model.better());
-            } else if (kind < 15) {
-                fault = check("order", real.order(), model.order());
-            } else {
-                fault = check("rain", real.rain(a), model.rain(a), a);
+                return check("tidy", a);
             }
-            if (kind < 4 && !before.equals(model.rows.toString())) {
-                note("tidy changed");
+            if (kind < 9) {
+                return check("trade", a, b);
             }
-            if (kind >= 12 && kind < 15 && !before.equals(model.rows.toString())) {
-                note("order changed");
+            if (kind < 12) {
+                return check("better");
             }
-            return fault;
+            return kind < 15 ? check("order") : check("rain", a);
         }
 
-        void note(String what) {
-            seen.merge(what, 1, Integer::sum);
+        String check(String name, Integer... arguments) {
+            String before = model.rows.toString();
+            Call call = new Call(name, arguments);
+            int due = call.on(model);
+            note(name, due, !before.equals(model.rows.toString()));
+            done.add(new Answer(call, due));
+            String fault = used.faultOf(call, due);
+            List<Call> looks = looks();
+            for (int i = 0; i < LOOKS_BEHIND_A_CALL && fault == null; i++) {
+                Call look = looks.get(lookRandom.nextInt(looks.size()));
+                fault = used.faultOf(look, look.on(model));
+            }
+            if (fault == null && done.size() % CALLS_BETWEEN_FULL_LOOKS == 0) {
+                fault = lookAtAll(looks);
+            }
+            return fault == null ? null : done + "\n" + fault;
         }
 
-        String check(String name, int got, int due, int... arguments) {
-            calls.add(name + Arrays.toString(arguments) + " = " + due);
-            note(name + " " + due);
-            if (name.equals("trade") && due >= 0) {
-                note("trade done");
+        void note(String name, int due, boolean changed) {
+            seen.merge(name + " " + due, 1, Integer::sum);
+            if (changed) {
+                seen.merge(name + " changed", 1, Integer::sum);
             }
             if (name.equals("rain") && due > 16 && due % 16 > 0) {
-                note("rain both");
+                seen.merge("rain both", 1, Integer::sum);
             }
-            if (got != due) {
-                return calls + "\nanswered " + got;
-            }
-            String look = compareLooks();
-            return look == null ? null : calls + "\nthen " + look;
         }
 
-        String compareLooks() {
-            for (int scene = -1; scene <= model.minutes.size(); scene++) {
-                for (int what = -1; what <= 8; what++) {
-                    if (real.about(scene, what) != model.about(scene, what)) {
-                        return "about(" + scene + ", " + what + ") = " + real.about(scene, what) + ", due is "
-                            + model.about(scene, what);
-                    }
-                }
-            }
-            for (int day = -1; day <= model.rows.size(); day++) {
-                for (int what = -1; what <= 6; what++) {
-                    if (real.of(day, what) != model.of(day, what)) {
-                        return "of(" + day + ", " + what + ") = " + real.of(day, what) + ", due is "
-                            + model.of(day, what);
-                    }
-                    if (real.row(day, what) != model.row(day, what)) {
-                        return "row(" + day + ", " + what + ") = " + real.row(day, what) + ", due is "
-                            + model.row(day, what);
-                    }
-                }
-            }
-            for (int player = -1; player <= 8; player++) {
-                for (int what = -1; what <= 4; what++) {
-                    if (real.held(player, what) != model.held(player, what)) {
-                        return "held(" + player + ", " + what + ") = " + real.held(player, what) + ", due is "
-                            + model.held(player, what);
-                    }
-                }
-            }
-            for (int what = -1; what <= 4; what++) {
-                if (real.cost(what) != model.cost(what)) {
-                    return "cost(" + what + ") = " + real.cost(what) + ", due is " + model.cost(what);
-                }
-                if (real.count(what) != model.count(what)) {
-                    return "count(" + what + ") = " + real.count(what) + ", due is " + model.count(what);
-                }
-            }
-            if (real.below() != model.below()) {
-                return "below() = " + real.below() + ", due is " + model.below();
-            }
+        /** Looks at everything, by as many new objects with the same calls behind them as it takes. */
+        String lookAtAll(List<Call> looks) {
             if (!model.keeps(model.rows)) {
                 return "the plan does not keep";
             }
-            if (real.below() > real.cost(0)) {
+            if (model.below() > model.cost(0)) {
                 return "below() is above the cost";
             }
+            Used fresh = null;
+            for (Call look : looks) {
+                if (fresh == null || fresh.calls == Used.MOST_CALLS) {
+                    fresh = new Used();
+                    for (Answer answer : done) {
+                        String fault = fresh.faultOf(answer.call, answer.due);
+                        if (fault != null) {
+                            return "without the looks between " + fault;
+                        }
+                    }
+                }
+                String fault = fresh.faultOf(look, look.on(model));
+                if (fault != null) {
+                    return fault;
+                }
+            }
             return null;
+        }
+
+        List<Call> looks() {
+            List<Call> looks = new ArrayList<>();
+            addLooks(looks, "about", model.minutes.size(), 8);
+            addLooks(looks, "of", model.rows.size(), 6);
+            addLooks(looks, "row", model.rows.size(), 5);
+            addLooks(looks, "held", 8, 4);
+            for (int what = -1; what <= 4; what++) {
+                looks.add(new Call("cost", what));
+                looks.add(new Call("count", what));
+            }
+            looks.add(new Call("below"));
+            return looks;
+        }
+
+        /** Of each there is, and of the first ones outside. */
+        void addLooks(List<Call> looks, String name, int firsts, int seconds) {
+            for (int first = -1; first <= firsts; first++) {
+                for (int second = -1; second <= seconds; second++) {
+                    looks.add(new Call(name, first, second));
+                }
+            }
+        }
+    }
+
+    private record Answer(Call call, int due) {
+        @Override
+        public String toString() {
+            return call + " = " + due;
+        }
+    }
+
+    private record Call(String name, Integer... arguments) {
+        private static final Map<Class<?>, Map<String, Method>> METHODS =
+            Map.of(ShootingDays.class, methodsOf(ShootingDays.class), Model.class, methodsOf(Model.class));
+
+        private static Map<String, Method> methodsOf(Class<?> type) {
+            Map<String, Method> methods = new HashMap<>();
+            for (Method method : type.getDeclaredMethods()) {
+                methods.put(method.getName(), method);
+            }
+            return methods;
+        }
+
+        /** Makes the call on a ShootingDays or on a Model: the model's methods have the names of the face. */
+        int on(Object film) {
+            try {
+                return (int) METHODS.get(film.getClass()).get(name).invoke(film, (Object[]) arguments);
+            } catch (ReflectiveOperationException e) {
+                throw new IllegalStateException(this + " has thrown " + e.getCause());
+            }
+        }
+
+        @Override
+        public String toString() {
+            return name + Arrays.toString(arguments).replace('[', '(').replace(']', ')');
+        }
+    }
+
+    /** An object in use, which the document promises something of for 512 calls. */
+    private static final class Used {
+        static final int MOST_CALLS = 512;
+
+        private final ShootingDays object = new ShootingDays();
+        int calls;
+
+        /** Makes the call; null if it answers what is due. */
+        String faultOf(Call call, int due) {
+            calls++;
+            if (calls > MOST_CALLS) {
+                throw new IllegalStateException("a run uses one object for more than " + MOST_CALLS + " calls");
+            }
+            int got = call.on(object);
+            return got == due ? null : call + " answered " + got + ", due is " + due;
         }
     }
 
