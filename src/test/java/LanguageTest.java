@@ -1,19 +1,13 @@
-import com.sun.source.tree.AssertTree;
 import com.sun.source.tree.BinaryTree;
 import com.sun.source.tree.BlockTree;
 import com.sun.source.tree.ClassTree;
 import com.sun.source.tree.CompilationUnitTree;
 import com.sun.source.tree.ImportTree;
-import com.sun.source.tree.LambdaExpressionTree;
-import com.sun.source.tree.MemberReferenceTree;
 import com.sun.source.tree.MethodInvocationTree;
 import com.sun.source.tree.MethodTree;
 import com.sun.source.tree.NewArrayTree;
 import com.sun.source.tree.NewClassTree;
-import com.sun.source.tree.SynchronizedTree;
-import com.sun.source.tree.ThrowTree;
 import com.sun.source.tree.Tree;
-import com.sun.source.tree.TryTree;
 import com.sun.source.tree.TypeCastTree;
 import com.sun.source.tree.VariableTree;
 import com.sun.source.util.JavacTask;
@@ -72,6 +66,10 @@ public final class LanguageTest {
         private static final Set<String> TYPES = Set.of("java.lang.String", "java.lang.StringBuilder",
             "java.lang.Integer", "java.util.ArrayList", "java.util.List");
 
+        private static final Map<Tree.Kind, Integer> BANNED = Map.of(Tree.Kind.LAMBDA_EXPRESSION, 2,
+            Tree.Kind.MEMBER_REFERENCE, 2, Tree.Kind.THROW, 6, Tree.Kind.TRY, 6, Tree.Kind.SYNCHRONIZED, 6,
+            Tree.Kind.ASSERT, 6);
+
         final List<String> faults = new ArrayList<>();
         private final Trees trees;
         private final CompilationUnitTree unit;
@@ -113,6 +111,14 @@ public final class LanguageTest {
                 outermost = outermost.getEnclosingElement();
             }
             return outermost.getSimpleName().contentEquals("ShootingDays");
+        }
+
+        @Override
+        public Void scan(Tree tree, Void nothing) {
+            if (tree != null && BANNED.containsKey(tree.getKind())) {
+                must(false, tree, BANNED.get(tree.getKind()), tree.getKind().toString());
+            }
+            return super.scan(tree, nothing);
         }
 
         @Override
@@ -217,42 +223,6 @@ public final class LanguageTest {
         public Void visitTypeCast(TypeCastTree tree, Void nothing) {
             must(trees.getTypeMirror(getCurrentPath()).getKind().isPrimitive(), tree, 6, "a cast of an object");
             return super.visitTypeCast(tree, nothing);
-        }
-
-        @Override
-        public Void visitLambdaExpression(LambdaExpressionTree tree, Void nothing) {
-            must(false, tree, 2, "a lambda");
-            return super.visitLambdaExpression(tree, nothing);
-        }
-
-        @Override
-        public Void visitMemberReference(MemberReferenceTree tree, Void nothing) {
-            must(false, tree, 2, "a method reference");
-            return super.visitMemberReference(tree, nothing);
-        }
-
-        @Override
-        public Void visitThrow(ThrowTree tree, Void nothing) {
-            must(false, tree, 6, "a throw");
-            return super.visitThrow(tree, nothing);
-        }
-
-        @Override
-        public Void visitTry(TryTree tree, Void nothing) {
-            must(false, tree, 6, "a try");
-            return super.visitTry(tree, nothing);
-        }
-
-        @Override
-        public Void visitSynchronized(SynchronizedTree tree, Void nothing) {
-            must(false, tree, 6, "a synchronized");
-            return super.visitSynchronized(tree, nothing);
-        }
-
-        @Override
-        public Void visitAssert(AssertTree tree, Void nothing) {
-            must(false, tree, 6, "an assert");
-            return super.visitAssert(tree, nothing);
         }
 
         /** Rule 11; a method that calls itself, by others too, counts once. */
